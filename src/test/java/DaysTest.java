@@ -96,6 +96,11 @@ public final class DaysTest {
                 + "day 7 warm 0;");
         Check.due("on the 99th day", last.until(0), 99);
         Check.due("not by the 99th day", last.until(1), -1);
+        GlacierCamp next = Check.camp("band a height 0 snow 0; stake s in a deep 38; day 0 warm 0; day 1 warm 0;"
+                + "day 2 warm 0; day 3 warm 1; day 4 warm 0; day 5 warm 0; day 6 warm 0; day 7 warm 0;");
+        Check.due("only on the 100th day", next.until(0), -1);
+        next.pass(1);
+        Check.due("now on the 99th", next.until(0), 99);
         last.pass(1);
         Check.due("98 days", last.until(0), 98);
         Check.due("on the 106th day", last.until(1), -1);
@@ -153,6 +158,14 @@ public final class DaysTest {
             Check.dueThrow("team " + wrong, camp, OUTSIDE, () -> camp.safe(wrong, true));
         }
         Check.dueThrow("team 3", camp, OUTSIDE, () -> camp.safe(3, false));
+        for (int weak = 0; weak < 3; weak++) {
+            String bridges = "crevasse c above a bridge 16; crevasse d above a bridge 16; crevasse e above a bridge 16;";
+            int at = bridges.indexOf("16", 28 * weak + 20);
+            String list = "band a height 10 snow 0; band b height 11 snow 0;" + bridges.substring(0, at) + "15"
+                    + bridges.substring(at + 2) + "team t in a size 2 food 40; team u in b size 2 food 40;";
+            Check.due("up over a weak one", Check.camp(list).safe(0, true), false);
+            Check.due("down over a weak one", Check.camp(list).safe(1, false), false);
+        }
     }
 
     private static void advice() {

@@ -165,6 +165,9 @@ public final class TeachTest {
         error(1, CAMP + "climb t when [not [not [not [max(@- 1, 2) = 1]]]];");
         error(1, CAMP + "climb t when [not [not [not [max(1, @- 2) = 1]]]];");
         error(1, CAMP + "climb t when [not [not [not [not min@(1, 2) = 1]]]];");
+        good(CAMP + "climb t when min((((((((1))))))), (((((((2)))))))) = max((((((((1))))))), - - - - - - - 2);");
+        error(1, CAMP + "climb t when min((((((((@(1))))))))), 2) = 1;");
+        error(1, CAMP + "climb t when min(1, - - - - - - - @- 2) = 1;");
         error(1, CAMP + "climb t when [not [not [not [not max @1]]]];");
         good(CAMP + "fill t with ((((((((1)))))))) - ((((((((1)))))))) when not [- 1 < 2] and not [- 1 < 2];");
         good(CAMP + "climb t when [[[[[[[- 1 - - 1 = - 1 and - 1 = 1 or not here t]]]]]]];");
@@ -331,5 +334,23 @@ public final class TeachTest {
         Check.due("readings anew", camp.team(0, 5), 0);
         Check.due("nothing done", camp.team(0, 7), 0);
         Check.due("ice anew", camp.count(8), 0);
+        again(camp);
+    }
+
+    /** However often a list is taught, with an error or without, nothing is left of the ones before. */
+    private static void again(GlacierCamp camp) {
+        String order = "fill t with (1 + 1) * (2 + 0 - 0) + min(0, 1) + max(0, - 1) when not [1 = 2 or 3 < 2];";
+        String list = CAMP.replace("size 2 food 5", "size 2 food 0") + order;
+        for (int i = 0; i < 30; i++) {
+            Check.due("teach with an error at the end", Check.teach(camp, list + "climb t when here u;"), 3);
+            Check.due("teach", Check.teach(camp, list), 0);
+            for (int what = 1; what <= 6; what++) {
+                Check.due("again: count(" + what + ")", camp.count(what), what == 1 ? 2 : 1);
+            }
+            Check.due("orders carried out", camp.count(11), 0);
+            camp.pass(1);
+            Check.due("orders carried out", camp.count(11), 1);
+            Check.due("4 are filled, 1 is eaten", camp.team(0, 1), 3);
+        }
     }
 }

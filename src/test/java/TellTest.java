@@ -355,6 +355,7 @@ public final class TellTest {
         test("known d", true);
         test("known c", false);
         test("not here u", true);
+        test("not here t", false);
         test("not not here u", false);
         test("not here t and here u", false);
         test("not [here t and here u]", true);
@@ -389,5 +390,17 @@ public final class TellTest {
         // climb cannot, fill cannot, probe; s lies in a, where nobody is.
         Check.due("probe", camp.count(11), 6);
         Check.due("s lies", camp.stake(0, 3), 0);
+        GlacierCamp drilled = Check.camp("band a height 0 snow 0; stake s in a deep 9; stake r in a deep 200;"
+                + "depot d in a food 1; team t in a size 2 food 0; drill s when 1 = 1; drill r when 1 = 1; fill t with 3;");
+        drilled.pass(1);
+        Check.due("fill of the last food", drilled.count(11), 1);
+        drilled.pass(1);
+        Check.due("drill of s, which lies", drilled.count(11), 2);
+        Check.due("s fell again", drilled.stake(0, 2), 30);
+        Check.due("r still stands", drilled.stake(1, 2), 60);
+        GlacierCamp not = Check.camp("band a height 0 snow 0; depot d in a food 9; team t in a size 2 food 0;"
+                + "fill t with 3 when not here t; fill t with 1 when not not here t;");
+        not.pass(1);
+        Check.due("only the second one", not.depot(0, 1), 8);
     }
 }
