@@ -472,7 +472,7 @@ public final class GlacierCamp {
         }
     }
 
-    /** What a token can be. In a formula a sign is also what is reckoned, out of so many numbers ahead of it. */
+    /** What a token can be. In a formula it is also what is reckoned, out of the last so many values ahead of it. */
     private enum Sign {
         BAND("band", 0), HEIGHT("height", 0), SNOW("snow", 0), STAKE("stake", 0), IN("in", 0), DEEP("deep", 0),
         CREVASSE("crevasse", 0), ABOVE("above", 0), BRIDGE("bridge", 0), DEPOT("depot", 0), FOOD("food", 0),
@@ -814,7 +814,7 @@ public final class GlacierCamp {
 
         private void readGo(int kind) {
             newOrder(kind);
-            orders.note(Orders.TEAM, oldName(kind == Orders.CLIMB ? Sign.CLIMB : Sign.DESCEND, teams));
+            orders.note(Orders.TEAM, oldName(tokens.sign(), teams));
         }
 
         private void readProbe() {
@@ -1051,10 +1051,9 @@ public final class GlacierCamp {
                 errorPosition = tokens.start();
             }
         }
-
     }
 
-    /** Sums and tests, each a stretch of signs with the numbers that a sign joins ahead of it. */
+    /** Sums and tests, each a stretch of signs: what a sign takes stands ahead of it. So no recursion reckons them. */
     private static final class Formulas {
         // A - in front makes two of one token: it is reckoned as 0 less the value.
         private static final int MOST_SIGNS = 2 * MOST_TOKENS;
