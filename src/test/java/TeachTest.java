@@ -234,6 +234,15 @@ public final class TeachTest {
                 + "band a0 height 3 snow 0; band aa height 4 snow 0;");
         error(3, "band abcdefghi1 height 0 snow 0; stake s in @abcdefghi2 deep 1;");
         error(3, "band a0 height 0 snow 0; stake s in @a deep 1;");
+        String[] near = {"a", "ba", "b", "az", "a0", "a9", "as", "b9", "dl", "ar", "f0", "zzzzzzzzzz", "zzzzzzzzz9",
+            "z999999999", "azzzzzzzzz"};
+        for (String one : near) {
+            for (String other : near) {
+                error(one.equals(other) ? 2 : 5,
+                        "band " + one + " height 0 snow 0; band " + (one.equals(other) ? "@" + other + " height 0 snow 0;"
+                                : other + " height @0 snow 0;"));
+            }
+        }
     }
 
     private static String lines(String line, int many) {
