@@ -18,21 +18,16 @@ public final class TeachTest {
         Check.end();
     }
 
-    /** The text has this error at the first place where the mark stands; the mark itself is left out. */
     private static void error(int error, String marked) {
-        GlacierCamp camp = new GlacierCamp();
-        int at = marked.indexOf('@');
-        String text = marked.replace("@", "");
-        Check.due("teach of " + text, Check.teach(camp, text), error);
-        Check.due("errorAt of " + text, camp.errorAt(), at);
-        Check.due("tape behind " + text, camp.count(14), 0);
+        Check.error(error, marked);
     }
 
     private static void good(String text) {
-        GlacierCamp camp = new GlacierCamp();
-        Check.due("teach of " + text, Check.teach(camp, text), 0);
-        Check.due("errorAt of " + text, camp.errorAt(), -1);
-        Check.due("tape behind " + text, camp.count(14), 0);
+        Check.good(text);
+    }
+
+    private static String lines(String line, int many) {
+        return Check.lines(line, many);
     }
 
     private static void tokens() {
@@ -243,14 +238,6 @@ public final class TeachTest {
                                 : other + " height @0 snow 0;"));
             }
         }
-    }
-
-    private static String lines(String line, int many) {
-        StringBuilder text = new StringBuilder();
-        for (int i = 0; i < many; i++) {
-            text.append(line.replace("#", String.valueOf(i)));
-        }
-        return text.toString();
     }
 
     private static void limits() {
