@@ -213,12 +213,13 @@ public final class LanguageEdgeTest {
     // ---- grammar
 
     private static void grammar() {
-        Check.tests(LanguageEdgeTest::manyTimes, LanguageEdgeTest::perhaps, LanguageEdgeTest::lines,
+        Check.tests(LanguageEdgeTest::manyLines, LanguageEdgeTest::manyTests, LanguageEdgeTest::manyValues,
+                LanguageEdgeTest::manyTimes, LanguageEdgeTest::perhaps, LanguageEdgeTest::lines,
                 LanguageEdgeTest::singles, LanguageEdgeTest::values);
     }
 
-    private static void manyTimes() {
-        Check.sentence(4, "{ x } x any number of times, also none");
+    private static void manyLines() {
+        Check.sentence(4, "list = { line \";\" }");
         good("");
         good(BAND);
         good(Check.lines("day # warm 3;", 8));
@@ -226,23 +227,40 @@ public final class LanguageEdgeTest {
         error(1, BAND + "@;");
         error(1, "band a height 0 snow 0@");
         error(1, "band a height 0 snow 0 @band b height 1 snow 0;");
+    }
+
+    private static void manyTests() {
+        Check.sentence(4, "test = both { \"or\" both } both = single { \"and\" single }");
         good(CAMP + "climb t when here t;");
         good(CAMP + "climb t when here t" + Check.lines(" or here t", 60) + ";");
         good(CAMP + "climb t when here t" + Check.lines(" and here t", 60) + ";");
         good(CAMP + "climb t when here t and here t or here t or here t and here t and here t or here t;");
-        good(CAMP + "fill t with 1" + Check.lines("+1-1", 60) + ";");
-        good(CAMP + "fill t with 1" + Check.lines("*1/1", 60) + ";");
-        good(CAMP + "fill t with 1*2+3/4-5*6*7;");
         error(1, CAMP + "climb t when @or here t;");
         error(1, CAMP + "climb t when here t or@;");
         error(1, CAMP + "climb t when here t and@;");
         error(1, CAMP + "climb t when here t or @or here t;");
         error(1, CAMP + "climb t when here t and @or here t;");
+        error(1, CAMP + "climb t when here t @here t;");
+    }
+
+    private static void manyValues() {
+        Check.sentence(4, "sum = product { ( \"+\" | \"-\" ) product } product = value { ( \"*\" | \"/\" ) value }");
+        good(CAMP + "fill t with 1;");
+        good(CAMP + "fill t with 1" + Check.lines("+1-1", 60) + ";");
+        good(CAMP + "fill t with 1" + Check.lines("*1/1", 60) + ";");
+        good(CAMP + "fill t with 1*2+3/4-5*6*7;");
         error(1, CAMP + "fill t with 1 +@;");
         error(1, CAMP + "fill t with 1 + @+ 1;");
         error(1, CAMP + "fill t with @* 1;");
         error(1, CAMP + "fill t with 1 *@;");
         error(1, CAMP + "fill t with 1 @1;");
+    }
+
+    private static void manyTimes() {
+        Check.sentence(4, "{ x } x any number of times, also none");
+        good("");
+        good(CAMP + Check.lines("climb t when here t or here t and here t;", 20));
+        good(CAMP + "fill t with 1" + "*1".repeat(100) + "+1".repeat(60) + ";");
     }
 
     private static void perhaps() {
